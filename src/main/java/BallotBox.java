@@ -248,7 +248,8 @@ public final class BallotBox {
 
     private boolean isBare(int set) {
         // Only the lightest node has to be left out: without a heavier one less is left.
-        return isEnough(set) && weightOf(set) - lightestOf(set) < needed;
+        int sum = weightOf(set);
+        return sum >= needed && sum - lightestOf(set) < needed;
     }
 
     private int lightestOf(int set) {
@@ -286,8 +287,8 @@ public final class BallotBox {
 
     private boolean isSafe(int b, int v) {
         for (int lower = 0; lower < b; lower++) {
-            // Where nobody has voted yet, each value can be chosen that any other can:
-            // such a ballot has NONE here and so counts against v, too.
+            // Where nobody has voted, values other than v can be chosen as well as v:
+            // NONE, which is not v either, stands for them.
             if (votedFor[lower] != v && hasWayToChoose(lower)) {
                 return false;
             }

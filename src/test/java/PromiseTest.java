@@ -386,6 +386,7 @@ public final class PromiseTest {
         due("bare: no node without weight", 1, () -> weighted(2, 1, 1).bare());
         due("bare: one heavy, three light", 4, () -> weighted(3, 3, 2, 2, 2).bare());
         due("bare: not with a light one too many", 1, () -> weighted(4, 2, 2, 1).bare());
+        due("bare: nor with one ahead of the heavy ones", 1, () -> weighted(4, 1, 2, 2).bare());
         due("bare: all ten", 1, () -> weighted(500, 50, 50, 50, 50, 50, 50, 50, 50, 50, 50).bare());
     }
 
@@ -432,7 +433,7 @@ public final class PromiseTest {
         x.vote(2, 29, 0);
         due("count(3), two alike", 4, () -> x.count(3));
         due("count(4), two alike", 3, () -> x.count(4));
-        due("count(2), four more ballots", 6, () -> x.count(2));
+        due("count(2), two more votes", 6, () -> x.count(2));
     }
 
     private static void refusalsChangeNothing() {
