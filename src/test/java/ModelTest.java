@@ -349,9 +349,13 @@ public final class ModelTest {
         }
     }
 
-    /** Mostly a number below the limit, now and then one just beside the range. */
+    /** Mostly a number below the limit, now and then one beside the range. */
     private static int some(Random random, int limit) {
-        return random.nextInt(25) == 0 ? (random.nextBoolean() ? -1 : limit) : random.nextInt(limit);
+        if (random.nextInt(25) != 0) {
+            return random.nextInt(limit);
+        }
+        int[] beside = {-1, limit, Integer.MIN_VALUE, Integer.MAX_VALUE};
+        return beside[random.nextInt(beside.length)];
     }
 
     /** How a run leans, so that among the runs all sorts of states come up. */
