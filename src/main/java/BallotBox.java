@@ -280,7 +280,7 @@ public final class BallotBox {
         return votedFor[b] == NONE || votedFor[b] == v;
     }
 
-    /** Whether any value at all can be chosen in the ballot, one that is already among them. */
+    /** Whether any value can be chosen in the ballot; one that is chosen already counts too. */
     private boolean hasWayToChoose(int b) {
         return isEnough(voters[b] | openNodes(b));
     }

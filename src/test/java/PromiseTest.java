@@ -410,6 +410,22 @@ public final class PromiseTest {
         Check.due("all after questions", seen(Check.used()), () -> seen(x));
     }
 
+    /** What README.md shows under 'Use'. */
+    private static void exampleOfTheReadme() {
+        BallotBox box = new BallotBox();
+        Check.due("readme: ask below all votes", -1, () -> box.ask(0b111111, 1));
+        for (int node = 0; node < 6; node++) {
+            int n = node;
+            Check.due("readme: vote", n + 1, () -> box.vote(n, 1, 7));
+        }
+        Check.due("readme: chosen", 7, () -> box.chosen(1));
+        Check.due("readme: can", false, () -> box.can(1, 3));
+        Check.due("readme: safe", true, () -> box.safe(2, 7));
+        Check.due("readme: ask above a vote", 7, () -> box.ask(0b1111110000, 2));
+        Check.due("readme: vote not open", Check.STATE, () -> box.vote(4, 1, 7));
+        Check.due("readme: no such ballot", Check.NO_SUCH, () -> box.chosen(31));
+    }
+
     public static void main(String[] args) {
         newObject();
         weight();
@@ -431,6 +447,7 @@ public final class PromiseTest {
         count();
         refusalsChangeNothing();
         questionsChangeNothing();
+        exampleOfTheReadme();
         Check.finish();
     }
 }
